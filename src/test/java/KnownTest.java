@@ -212,6 +212,9 @@ public final class KnownTest {
         checks.due("meant(-1, 0)", x.meant(-1, 0), -1);
         checks.due("meant(0, 2)", x.meant(0, 2), -2);
         checks.due("meant(0, -1)", x.meant(0, -1), -2);
+        BrideNotKnown far = Checks.valleyOf("bb000;g6363;");
+        checks.due("no toe as in his mind", far.meant(0, 0), 0);
+        checks.due("6 toes", far.meant(0, 1), 6);
         BrideNotKnown y = Checks.valleyOf("g6307;");
         checks.due("nobody is meant", y.meant(0, 0), -9);
         checks.due("nor a toe", y.meant(0, 1), -9);
@@ -237,7 +240,40 @@ public final class KnownTest {
         checks.due("and loses as all grooms", u.loses(), 1);
     }
 
+    /** A year on, bride 0 shows otherwise and bride 2 is back: none of that is so now. */
+    private static void allIsAsNow() {
+        BrideNotKnown x = Checks.valleyOf("bc007;bb006;bb001;g6301;g6307;g6307;w0;");
+        checks.due("here", x.count(3), 3);
+        checks.due("0 guesses none", x.groom(0, 4), 0);
+        checks.due("1 guesses 0", x.groom(1, 4), 1);
+        checks.due("known", x.known(0), 1);
+        checks.due("safe", x.known(1), 2);
+        checks.due("0 takes of all", x.takes(0), 0);
+        checks.due("1 knows", x.takes(1), -9);
+        checks.due("1 is to forget toe 0", x.forget(1), 1);
+        checks.due("two pairs", x.pairs(-1), 2);
+        checks.due("2 has nobody", x.pairs(2), -9);
+        Checks.numbers(x, 0, 1, 1);
+        checks.due("judged", x.judge(), -9);
+        BrideNotKnown y = Checks.valleyOf("bc007;bb006;g6307;g6307;");
+        checks.due("both know 0", y.pairs(-1), 1);
+        checks.due("0 has 1", y.pairs(0), 1);
+        checks.due("toe 0 hides her", y.hide(0), 1);
+        checks.due("0 knows her", y.when(0), 0);
+    }
+
+    /** What README.md shows. */
+    private static void readme() {
+        BrideNotKnown x = new BrideNotKnown();
+        checks.due("valley()", Checks.told(x, "bb007;bf207;g6307;"), 3);
+        checks.due("known(0)", x.known(0), 1);
+        checks.due("hide(0)", x.hide(0), 1);
+        checks.due("wedding(0)", x.wedding(0), 0);
+    }
+
     public static void main(String[] args) {
+        readme();
+        allIsAsNow();
         promise13();
         promises14And16();
         promise15();

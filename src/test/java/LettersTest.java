@@ -83,6 +83,8 @@ public final class LettersTest {
         fault("y:1;", -1001);
         fault("bb064;x", -1006);
         fault("t00;bb00", -1008);
+        faultBehind("bb000;", "bb000", -1005);
+        faultBehind("bb000;bb000;", "bb000;bb0", -1009);
     }
 
     private static void promise3Sense() {

@@ -13,6 +13,8 @@ public final class LikenessTest {
         alike(new BrideNotKnown(), 0, -9, 0, -9);
         alike(Checks.valleyOf("bb007;"), 0, -9, 1, 7);
         alike(Checks.valleyOf("bb009;bb007;bb003;"), 0, -9, 1, 3);
+        alike(Checks.valleyOf("bb063;bb000;bb000;"), 1, 12, 2, 0);
+        alike(Checks.valleyOf("bb000;bb063;bb063;"), 1, 12, 2, 63);
         alike(Checks.valleyOf("bb009;bb007;bs003;bb007;bb009;"), 4, 4, 3, 7);
         alike(Checks.valleyOf("bb009;bb007;bb007;bb009;bb001;"), 2, 3, 2, 7);
         BrideNotKnown x = Checks.valleyOf("bb007;bf207;bc207;bf203;g6307;");
@@ -36,6 +38,9 @@ public final class LikenessTest {
         checks.due("of toes 2 and 4 the least", Checks.valleyOf("bb020;bb000;").tells(), 2);
         checks.due("one by two of three", Checks.valleyOf("bb048;bb032;bb032;").tells(), 4);
         checks.due("all toes alike", Checks.valleyOf("bb063;").tells(), 0);
+        checks.due("2 by 1 as near as 1 by 2", Checks.valleyOf("bb001;bb001;bb002;").tells(), 0);
+        checks.due("1 by 2 as near as 2 by 1", Checks.valleyOf("bb001;bb002;bb002;").tells(), 0);
+        checks.due("as now, not in an odd year", Checks.valleyOf("bc100;bb000;").tells(), 0);
         checks.due("what is shown", Checks.valleyOf("bf300;bb000;").tells(), 3);
         BrideNotKnown x = Checks.valleyOf("bb001;bb000;bb034;g0101;w0;bb034;bb002;bb032;");
         checks.due("0 is away: toe 0 nobody shows, toe 1 tells 3 by 2", x.tells(), 1);
@@ -73,6 +78,9 @@ public final class LikenessTest {
         checks.due("both are sent", y.order(1), 2);
         checks.due("none marries", y.order(0), 0);
         checks.due("nobody", new BrideNotKnown().order(0), 0);
+        BrideNotKnown z = Checks.valleyOf("bb001;bb001;g6301;");
+        checks.due("bride 0 is married", z.order(0), 1);
+        checks.due("not sent", z.order(1), 0);
     }
 
     private static void promise29() {
@@ -83,6 +91,7 @@ public final class LikenessTest {
         checks.due("0 6 1 1 2 3", x.lies(), 13);
         BrideNotKnown y = Checks.valleyOf("bf007;bf007;bb001;g6306;w0;");
         checks.due("only who is here", y.lies(), 1);
+        checks.due("the first", Checks.valleyOf("bf007;bb001;").lies(), 1);
         BrideNotKnown z = Checks.valleyOf("bf007;g6306;w0;");
         checks.due("sent home", z.lies(), 0);
     }
@@ -139,7 +148,7 @@ public final class LikenessTest {
         checks.due("nothing rests", Checks.valleyOf("bb000;bt003;g0100;g0302;g0201;").two(0, 1), -9);
         checks.due("nothing rests", Checks.valleyOf("bs001;bt002;g0202;g0303;g0103;").two(0, 1), -9);
         checks.due("nothing rests", Checks.valleyOf("bb000;bt003;bb002;g0103;g0303;g0103;").two(0, 2), -9);
-        String[] kinds = {"b", "s", "t", "f"};
+        String[] kinds = {"b", "s", "t", "c"};
         for (int i = 0; i < 512; i++) {
             String text = "bb00" + i % 2 + ";b" + kinds[i / 2 % 4] + "000;b" + kinds[i / 8 % 4] + "00" + i / 32 % 2
                     + ";g010" + i / 64 % 2 + ";g030" + i / 128 % 4 + ";g0203;";

@@ -54,6 +54,8 @@ public final class OddsTest {
         BrideNotKnown z = Checks.valleyOf("bb003;bf001;bs003;bb001;g6300;w0;");
         checks.due("6 by 4, one is away", z.mean(0), 3);
         checks.due("6 by 4 below", z.mean(1), 2);
+        checks.due("3 by 1", Checks.valleyOf("bb007;").mean(0), 3);
+        checks.due("3 by 1 below", Checks.valleyOf("bb007;").mean(1), 1);
         BrideNotKnown v = Checks.valleyOf("bb000;bb000;");
         checks.due("0 by 2", v.mean(0), 0);
         checks.due("0 by 2 below", v.mean(1), 1);
