@@ -1,3 +1,5 @@
+import java.util.List;
+
 /** Counts answers that are not as due, and ends the test with exit code 1 if there was one. */
 final class Checks {
     private final String name;
@@ -8,11 +10,23 @@ final class Checks {
         this.name = name;
     }
 
+    int made() {
+        return made;
+    }
+
     void due(String call, long got, long want) {
         made++;
         if (got != want) {
             wrong++;
             System.out.println(name + ": " + call + " answered " + got + ", due is " + want);
+        }
+    }
+
+    void same(String what, List<String> got, List<String> want) {
+        made++;
+        if (!got.equals(want)) {
+            wrong++;
+            System.out.println(name + ": " + what + ": " + got + ", due is " + want);
         }
     }
 

@@ -6,6 +6,9 @@ import java.util.Random;
 public final class ModelTest {
     private static final Checks checks = new Checks("ModelTest");
     private static final long REFUSED = 4000000000000000000L;
+    /** What an object answers behind its 512th call is free; each call is one answer here. */
+    private static final int MOST_CALLS = 512;
+    private static final int MOST_OF_A_STEP = 70;
 
     private final Random lot;
     private final BrideNotKnown x = new BrideNotKnown();
@@ -429,9 +432,10 @@ public final class ModelTest {
         int runs = args.length > 1 ? Integer.parseInt(args[1]) : 1500;
         for (int seed = 0; seed < runs; seed++) {
             ModelTest run = new ModelTest(seed);
+            int before = checks.made();
             run.valley();
             run.valley();
-            for (int i = 0; i < 50; i++) {
+            for (int i = 0; i < 50 && checks.made() - before <= MOST_CALLS - MOST_OF_A_STEP; i++) {
                 run.step();
             }
         }
