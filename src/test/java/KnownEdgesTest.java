@@ -302,6 +302,11 @@ public final class KnownEdgesTest {
         BrideNotKnown eight = Checks.valleyOf(ALL_ALIKE.substring(6) + "bb001;g0101;g0101;g0101;g0101;g0101;w0;");
         checks.due("7 is SENT home, none KNOWS one", eight.pairs(-1), 5);
         checks.due("0 has 0", eight.pairs(0), 0);
+        BrideNotKnown few = Checks.valleyOf(ALL_ALIKE + "g0000;g0000;g0000;w0;w2;");
+        checks.due("6 BRIDES HERE, one UNMARRIED GROOM", few.pairs(-1), 1);
+        checks.due("0 is MARRIED", few.pairs(0), -9);
+        checks.due("1 has the least BRIDE HERE: 0 and 1 are MARRIED", few.pairs(1), 2);
+        checks.due("2 is MARRIED", few.pairs(2), -9);
         BrideNotKnown gone = Checks.valleyOf("bb000;bb001;bb002;g0000;g6301;w0;w1;");
         checks.due("0 is MARRIED, 1 SENT home", gone.count(3), 4);
         checks.due("one is left", gone.pairs(-1), 1);
